@@ -179,7 +179,19 @@ public final class ChunkLayers {
     }
 
     public int flips() {
-        return faultyFlips();
+        int faulty = 0;
+        trial.copyFrom(now.file);
+        for (int place = 0; place < trial.size(); place++) {
+            int was = trial.byteAt(place);
+            for (int bit = 0; bit < 8; bit++) {
+                trial.replace(place, was ^ (1 << bit));
+                if (!reader.isWhole(trial)) {
+                    faulty++;
+                }
+            }
+            trial.replace(place, was);
+        }
+        return faulty;
     }
 
     public int as(int version, int what) {
@@ -209,7 +221,7 @@ public final class ChunkLayers {
 
     public long odds(int part) {
         int bits = now.file.size() * 8;
-        return bits == 0 ? NO : partOfFraction(faultyFlips(), bits, part);
+        return bits == 0 ? NO : partOfFraction(flips(), bits, part);
     }
 
     public long mean(int part) {
@@ -444,22 +456,6 @@ public final class ChunkLayers {
         return reader.isWhole(now.file) ? reader.things().topAt(k) : -1;
     }
 
-    private int faultyFlips() {
-        int faulty = 0;
-        trial.copyFrom(now.file);
-        for (int place = 0; place < trial.size(); place++) {
-            int was = trial.byteAt(place);
-            for (int bit = 0; bit < 8; bit++) {
-                trial.replace(place, was ^ 1 << bit);
-                if (!reader.isWhole(trial)) {
-                    faulty++;
-                }
-            }
-            trial.replace(place, was);
-        }
-        return faulty;
-    }
-
     /** A row of bytes that never grows beyond what it is made for. */
     private static final class Bytes {
         private final int[] cells;
@@ -479,7 +475,7 @@ public final class ChunkLayers {
 
         /** -1 where there is no such place: that is no byte, and equal to none. */
         int byteAt(int place) {
-            return has(place) ? cells[place] : -1;
+            return place >= 0 && place < size ? cells[place] : -1;
         }
 
         boolean append(int v) {
@@ -781,7 +777,7 @@ public final class ChunkLayers {
                 }
             }
             for (int e = 0; e < entries; e++) {
-                if (!chunkOfEntryIsWhole(e)) {
+                if (!chunkIsWhole(entryPlace(e), entryPlace(e) + 2, offsetOf(e), FIRST_CHUNK_LAYER)) {
                     faults.raise(WITHIN, 1, entryPlace(e));
                     return faults.raise(WITHIN, 0, 0);
                 }
@@ -797,9 +793,12 @@ public final class ChunkLayers {
             int sound = 0;
             int whole = 0;
             for (int e = 0; e < entries; e++) {
-                if (entryIsSound(e, sound)) {
-                    sound |= 1 << e;
-                    whole |= chunkOfEntryIsWhole(e) ? 1 << e : 0;
+                if (!entryIsSound(e, sound)) {
+                    continue;
+                }
+                sound |= 1 << e;
+                if (chunkIsWhole(entryPlace(e), entryPlace(e) + 2, offsetOf(e), FIRST_CHUNK_LAYER)) {
+                    whole |= 1 << e;
                 }
             }
             return whole;
@@ -855,15 +854,10 @@ public final class ChunkLayers {
             int end = endOf(entry);
             boolean sound = offset >= tableEnd() && end <= source.size();
             for (int e = 0; e < entry && sound; e++) {
-                boolean looksAtIt = (earlier >> e & 1) == 1;
+                boolean looksAtIt = ((earlier >> e) & 1) == 1;
                 sound = !looksAtIt || end <= offsetOf(e) || endOf(e) <= offset;
             }
             return sound;
-        }
-
-        private boolean chunkOfEntryIsWhole(int entry) {
-            int place = entryPlace(entry);
-            return chunkIsWhole(place, place + 2, offsetOf(entry), FIRST_CHUNK_LAYER);
         }
 
         private boolean chunkIsWhole(int typePlace, int lengthPlace, int payload, int layer) {
@@ -892,7 +886,7 @@ public final class ChunkLayers {
         private boolean takesNumber(int payload, int end, int layer) {
             int worth = source.byteAt(payload) > 127 ? -1 : 0;
             for (int place = payload; place < end; place++) {
-                worth = worth << 8 | source.byteAt(place);
+                worth = (worth << 8) | source.byteAt(place);
             }
             things.becomeWorth(things.append(NUMBER, layer - FIRST_CHUNK_LAYER), worth);
             return true;
@@ -939,6 +933,8 @@ public final class ChunkLayers {
         private final Things things = new Things();
         private Bytes source = new Bytes(0);
         private int place;
+        /** That at the place; -1 at the end. */
+        private int sign;
         private int faultPlace;
 
         Things things() {
@@ -952,7 +948,7 @@ public final class ChunkLayers {
         /** Whether a text has no FAULT; the things are its own then. */
         boolean isWhole(Bytes text) {
             source = text;
-            place = 0;
+            goTo(0);
             things.becomeEmpty();
             for (int many = 1; many <= MOST_ENTRIES; many++) {
                 if (!takesThing(0)) {
@@ -974,32 +970,32 @@ public final class ChunkLayers {
             return false;
         }
 
-        /** -1 at the end: no sign. */
-        private int sign() {
-            return source.byteAt(place);
+        private void goTo(int newPlace) {
+            place = newPlace;
+            sign = source.byteAt(newPlace);
         }
 
         private boolean goesOver(int due) {
-            if (sign() != due) {
+            if (sign != due) {
                 return false;
             }
-            place++;
+            goTo(place + 1);
             return true;
         }
 
         private boolean isLetter() {
-            return sign() >= 'a' && sign() <= 'z';
+            return sign >= 'a' && sign <= 'z';
         }
 
         private boolean isDigit() {
-            return sign() >= '0' && sign() <= '9';
+            return sign >= '0' && sign <= '9';
         }
 
         /** Sets are those that the thing stands in. */
         private boolean takesThing(int sets) {
             int start = place;
             for (int k = 0; k < MOST_SIGNS && isLetter(); k++) {
-                place++;
+                goTo(place + 1);
             }
             if (isWord(start, 'n', 'u', 'm')) {
                 return takesNumber(sets);
@@ -1032,8 +1028,8 @@ public final class ChunkLayers {
             }
             int worth = 0;
             for (int k = 0; k < 9 && isDigit(); k++) {
-                worth = worth * 10 + sign() - '0';
-                place++;
+                worth = worth * 10 + sign - '0';
+                goTo(place + 1);
             }
             things.becomeWorth(things.append(NUMBER, level), isBelow ? -worth : worth);
             return true;
@@ -1045,8 +1041,8 @@ public final class ChunkLayers {
             }
             int t = things.append(WORDS, level);
             for (int k = 0; k < MOST_IN_ROW && isLetter(); k++) {
-                things.takeByte(t, sign());
-                place++;
+                things.takeByte(t, sign);
+                goTo(place + 1);
             }
             return true;
         }
@@ -1073,11 +1069,11 @@ public final class ChunkLayers {
             }
             int v = 0;
             for (int k = 0; k < 3 && isDigit(); k++) {
-                v = v * 10 + sign() - '0';
+                v = v * 10 + sign - '0';
                 if (v > 255) {
                     return isFaulty(place);
                 }
-                place++;
+                goTo(place + 1);
             }
             things.takeByte(t, v);
             return true;
@@ -1161,14 +1157,18 @@ public final class ChunkLayers {
             }
         }
 
+        private static boolean isWholeBy(int worth, int bytes) {
+            int sign = worth >> (8 * bytes - 1);
+            return sign == 0 || sign == -1;
+        }
+
         private void writeNumber(int worth) {
             int bytes = 1;
-            // as long as the sign is lost when all but so many bytes go
-            for (; bytes < 4 && worth >> 8 * bytes - 1 != 0 && worth >> 8 * bytes - 1 != -1; ) {
+            while (bytes < 4 && !isWholeBy(worth, bytes)) {
                 bytes++;
             }
             for (int k = bytes - 1; k >= 0; k--) {
-                out.append(worth >> 8 * k & 255);
+                out.append((worth >> (8 * k)) & 255);
             }
         }
     }
