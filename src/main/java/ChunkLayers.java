@@ -825,7 +825,8 @@ public final class ChunkLayers {
 
         private boolean tableIsThere() {
             entries = source.byteAt(3);
-            return isThere(3) && (entries <= MOST_ENTRIES || faults.raise(TABLE_FAULT, 0, 3)) && isThere(tableEnd() - 1);
+            return isThere(3) && (entries <= MOST_ENTRIES || faults.raise(TABLE_FAULT, 0, 3))
+                && isThere(tableEnd() - 1);
         }
 
         private boolean isThere(int place) {

@@ -11,6 +11,8 @@ import java.util.TreeMap;
 public final class ModelTest {
     private static final int RUNS = 3000;
     private static final int SHOWN_AT_MOST = 20;
+    private static final int[] WILD = {Integer.MIN_VALUE, Integer.MIN_VALUE + 1, Integer.MAX_VALUE,
+        Integer.MAX_VALUE - 1, -1000, 1000, 256, 120, 1 << 24, 1 << 31 - 7};
     private static final Map<String, Integer> answered = new TreeMap<>();
     private static final List<Method> calls = new ArrayList<>();
     private static int wrong = 0;
@@ -140,7 +142,7 @@ public final class ModelTest {
         for (int k = 0; k < n; k++) {
             int sort = random.nextInt(12);
             arguments[k] = sort < 7 ? random.nextInt(9) - 2 : sort < 9 ? random.nextInt(64) : sort < 11
-                ? random.nextInt(300) - 20 : random.nextInt();
+                ? random.nextInt(300) - 20 : WILD[random.nextInt(WILD.length)];
         }
         switch (call.getName()) {
             case "mends", "set":
