@@ -121,10 +121,7 @@ public final class ChunkLayers {
         if (k < 0 || what < 0 || what > 2) {
             return NONE;
         }
-        if (reader.isWhole(now.file) || k >= reader.faults().size()) {
-            return NO_SUCH;
-        }
-        return reader.faults().told(k, what);
+        return reader.isWhole(now.file) ? NO_SUCH : reader.faults().told(k, what);
     }
 
     public int recovered() {
@@ -602,10 +599,6 @@ public final class ChunkLayers {
         private final int[] places = new int[DEEPEST_LAYER + 1];
         private int size;
 
-        int size() {
-            return size;
-        }
-
         void becomeEmpty() {
             size = 0;
         }
@@ -625,6 +618,7 @@ public final class ChunkLayers {
             return size > 0 ? whats[0] : 0;
         }
 
+        /** Of the k-th from LAYER 0 on. */
         int told(int k, int what) {
             int f = size - 1 - k;
             if (f < 0 || f >= size) {
@@ -910,7 +904,8 @@ public final class ChunkLayers {
             int place = payload;
             int many = 0;
             for (; many < MOST_IN_GROUP && place < end; many++) {
-                int next = place + 3 + (place + 1 < end ? source.byteAt(place + 1) : 0);
+                // without a LENGTH in the PAYLOAD its CHECK is taken for one: too far already, whatever it is
+                int next = place + 3 + source.byteAt(place + 1);
                 if (next > end) {
                     faults.raise(SHORT_FAULT, layer + 1, end);
                     return faults.raise(WITHIN, layer, payload);
@@ -951,18 +946,17 @@ public final class ChunkLayers {
             source = text;
             goTo(0);
             things.becomeEmpty();
-            for (int many = 1; many <= MOST_ENTRIES; many++) {
+            boolean isOver = false;
+            for (int many = 1; many <= MOST_ENTRIES && !isOver; many++) {
                 if (!takesThing(0)) {
                     return false;
                 }
-                if (place >= source.size()) {
-                    return true;
-                }
-                if (many == MOST_ENTRIES || !goesOver(';')) {
+                isOver = place >= source.size();
+                if (!isOver && (many == MOST_ENTRIES || !goesOver(';'))) {
                     return isFaulty(place);
                 }
             }
-            return false;
+            return true;
         }
 
         /** False always: so each reading function says in one line that it has found the FAULT. */
@@ -1105,11 +1099,9 @@ public final class ChunkLayers {
     private static final class FileWriter {
         /** More than any THINGS come to: so the caller sees what is more than THE FILE holds. */
         private final Bytes out = new Bytes(2 * MOST_BYTES);
-        private Things things = new Things();
         private int version;
 
-        Bytes written(Things told, int by) {
-            things = told;
+        Bytes written(Things things, int by) {
             version = by;
             out.endBehind(0);
             out.append(FIRST_MAGIC);
@@ -1124,19 +1116,19 @@ public final class ChunkLayers {
             int entry = HEAD;
             for (int t = 0; t < things.size(); t += Math.max(things.spanOf(t), 1)) {
                 out.replace(entry + 1, out.size());
-                writePayload(t, entry + 2, 0);
+                writePayload(things, t, entry + 2, 0);
                 entry += ENTRY;
             }
             return out;
         }
 
         /** The PAYLOAD and its CHECK; the LENGTH, known only then, comes to its place. */
-        private void writePayload(int t, int lengthPlace, int groups) {
+        private void writePayload(Things things, int t, int lengthPlace, int groups) {
             int from = out.size();
             if (things.typeOf(t) == NUMBER) {
                 writeNumber(things.worthOf(t));
             } else if (things.typeOf(t) == GROUP) {
-                writeGroup(t, groups);
+                writeGroup(things, t, groups);
             } else {
                 for (int k = 0; k < things.worthOf(t); k++) {
                     out.append(things.contentOf(t, k));
@@ -1147,14 +1139,14 @@ public final class ChunkLayers {
             out.append(out.checkBy(version, from, length));
         }
 
-        private void writeGroup(int t, int groups) {
+        private void writeGroup(Things things, int t, int groups) {
             if (groups >= DEEPEST_SET) {
                 return;
             }
             for (int u = t + 1; u < t + things.spanOf(t); u += Math.max(things.spanOf(u), 1)) {
                 out.append(things.typeOf(u));
                 out.append(0);
-                writePayload(u, out.size() - 1, groups + 1);
+                writePayload(things, u, out.size() - 1, groups + 1);
             }
         }
 
@@ -1178,28 +1170,26 @@ public final class ChunkLayers {
     private static final class Shower {
         /** No byte of THE FILE comes to more than four signs. */
         private final Bytes signs = new Bytes(5 * MOST_BYTES);
-        private Things things = new Things();
 
-        Bytes signsOf(Things told, int t) {
-            things = told;
+        Bytes signsOf(Things things, int t) {
             signs.endBehind(0);
-            showThing(t, 0);
+            showThing(things, t, 0);
             return signs;
         }
 
-        private void showThing(int t, int groups) {
+        private void showThing(Things things, int t, int groups) {
             switch (things.typeOf(t)) {
                 case NUMBER:
                     showNumber(things.worthOf(t));
                     break;
                 case WORDS:
-                    showWords(t);
+                    showWords(things, t);
                     break;
                 case RAW:
-                    showRaw(t);
+                    showRaw(things, t);
                     break;
                 default:
-                    showGroup(t, groups);
+                    showGroup(things, t, groups);
                     break;
             }
         }
@@ -1219,7 +1209,7 @@ public final class ChunkLayers {
             }
         }
 
-        private void showWords(int t) {
+        private void showWords(Things things, int t) {
             signs.append('"');
             for (int k = 0; k < things.worthOf(t); k++) {
                 signs.append(things.contentOf(t, k));
@@ -1227,7 +1217,7 @@ public final class ChunkLayers {
             signs.append('"');
         }
 
-        private void showRaw(int t) {
+        private void showRaw(Things things, int t) {
             signs.append('<');
             for (int k = 0; k < things.worthOf(t); k++) {
                 if (k > 0) {
@@ -1238,14 +1228,14 @@ public final class ChunkLayers {
             signs.append('>');
         }
 
-        private void showGroup(int t, int groups) {
+        private void showGroup(Things things, int t, int groups) {
             signs.append('(');
             int end = groups < DEEPEST_SET ? t + things.spanOf(t) : t;
             for (int u = t + 1; u < end; u += Math.max(things.spanOf(u), 1)) {
                 if (u > t + 1) {
                     signs.append(';');
                 }
-                showThing(u, groups + 1);
+                showThing(things, u, groups + 1);
             }
             signs.append(')');
         }

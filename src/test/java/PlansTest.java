@@ -61,6 +61,11 @@ public final class PlansTest {
         ChunkLayers y = Due.fileOf(67, 70, 1, 1, 110, 7, 1, 255 - 5, 5);
         y.plan(0, 7);
         ends(y, "all bits", 0, 1);
+        y.plan(-1, 0);
+        y.set(8, 0);
+        y.plan(1, 7);
+        ends(y, "0", 0, 1);
+        y.set(8, 5);
         // rows go one after the other
         y.plan(-1, 0);
         y.plan(1, 7);

@@ -210,6 +210,8 @@ public final class ReadingTest {
         // one whose CHUNK alone has a FAULT does
         due.is("the first's chunk is wrong, the second over it",
             Due.fileOf(67, 70, 1, 2, NUMBER, 10, 1, NUMBER, 11, 1, 5, 6, 6).recovered(), 0);
+        due.is("bytes behind the entries like an entry",
+            Due.fileOf(67, 70, 1, 1, NUMBER, 10, 1, NUMBER, 12, 1, 5, 5, 6, 6).recovered(), 1);
         due.is("a fault deep in a group",
             Due.fileOf(67, 70, 1, 2, GROUP, 10, 3, NUMBER, 14, 1, 1, 0, 0, 1, 5, 5).recovered(), 2);
     }

@@ -37,6 +37,9 @@ public final class TapesTest {
         due.is("peek(5, 0)", x.peek(5, 0), ChunkLayers.NO);
         due.is("item(5, 0, 0): no place", x.item(5, 0, 0), PLACE);
         due.is("tape(5, 3, 2)", x.tape(5, 3, 2), 1);
+        due.is("item(5, 0, 9)", x.item(5, 0, 9), 1);
+        due.is("tape(5, 3, 2) again", x.tape(5, 3, 2), 1);
+        due.is("peek(5, 0): all 0", x.peek(5, 0), 0);
         due.is("tape(5, 3, 61): refused", x.tape(5, 3, 61), ChunkLayers.BAD);
         due.is("peek(5, 1): as it was", x.peek(5, 1), 0);
         due.is("tape(5, -1, -9)", x.tape(5, -1, -9), 1);

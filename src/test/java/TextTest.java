@@ -145,6 +145,9 @@ public final class TextTest {
         faulty("raw 0255", 7);
         faulty("raw 1234", 7);
         faulty("raw 1,999", 8);
+        faultless("str az", "\"az\"");
+        faulty("str {", 4);
+        faulty("str `", 4);
         faultless("raw ", "<>");
         faultless("raw 000,00,0,255", "<0,0,0,255>");
         faultless("raw 1,2,3,4,5,6,7,8,9,0,1,2,3,4,5,6,7,8,9,0",

@@ -151,6 +151,8 @@ public final class WouldBeTest {
     private static void mean() {
         ChunkLayers x = Due.fileOfText(1, "num 5;set(num -8;set(num 1));str ab");
         due.fractionIs("mean below 0", x.mean(0), x.mean(1), -2, 3);
+        x = Due.fileOfText(1, "num -7");
+        due.fractionIs("mean of one", x.mean(0), x.mean(1), -7, 1);
         x = Due.fileOfText(1, "num 5;num -5");
         due.fractionIs("mean of 0", x.mean(0), x.mean(1), 0, 1);
         x = Due.fileOfText(1, "num 4;num 8;set(num 3;num 9)");
