@@ -55,44 +55,7 @@ final class Due {
 
     /** A file of VERSION 1 with one ENTRY at place 7, whose CHECK is right. */
     static ChunkLayers fileOfChunk(int type, int... payload) {
-        int[] bytes = new int[8 + payload.length];
-        int[] head = {67, 70, 1, 1, type, 7, payload.length};
-        int sum = 0;
-        System.arraycopy(head, 0, bytes, 0, head.length);
-        for (int k = 0; k < payload.length; k++) {
-            bytes[7 + k] = payload[k];
-            sum += payload[k];
-        }
-        bytes[bytes.length - 1] = sum & 255;
-        return fileOf(bytes);
-    }
-
-    /** A CHUNK as it stands in a GROUP of a file of VERSION 1: TYPE, LENGTH, PAYLOAD, CHECK. */
-    static int[] inGroup(int type, int... payload) {
-        int[] bytes = new int[payload.length + 3];
-        bytes[0] = type;
-        bytes[1] = payload.length;
-        int sum = 0;
-        for (int k = 0; k < payload.length; k++) {
-            bytes[2 + k] = payload[k];
-            sum += payload[k];
-        }
-        bytes[bytes.length - 1] = sum & 255;
-        return bytes;
-    }
-
-    static int[] together(int[]... rows) {
-        int many = 0;
-        for (int[] row : rows) {
-            many += row.length;
-        }
-        int[] all = new int[many];
-        int at = 0;
-        for (int[] row : rows) {
-            System.arraycopy(row, 0, all, at, row.length);
-            at += row.length;
-        }
-        return all;
+        return fileOf(Made.file(1, type, payload));
     }
 
     void fileIs(String what, ChunkLayers x, int... bytes) {

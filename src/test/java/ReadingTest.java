@@ -107,73 +107,60 @@ public final class ReadingTest {
     private static void rows() {
         due.faultsAre("no words", Due.fileOfChunk(WORDS));
         due.faultsAre("no raw", Due.fileOfChunk(RAW));
-        due.faultsAre("words of 20", Due.fileOfChunk(WORDS, repeated(126, 20)));
-        due.faultsAre("raw of 20", Due.fileOfChunk(RAW, repeated(255, 20)));
-        due.faultsAre("words of 21", Due.fileOfChunk(WORDS, repeated(65, 21)), 9, 0, 0, 9, 1, 4, 7, 2, 6);
-        due.faultsAre("raw of 21", Due.fileOfChunk(RAW, repeated(255, 21)), 9, 0, 0, 9, 1, 4, 7, 2, 6);
-        due.faultsAre("long ahead of sign", Due.fileOfChunk(WORDS, repeated(1, 21)), 9, 0, 0, 9, 1, 4, 7, 2, 6);
+        due.faultsAre("words of 20", Due.fileOfChunk(WORDS, Made.filled(20, 126)));
+        due.faultsAre("raw of 20", Due.fileOfChunk(RAW, Made.filled(20, 255)));
+        due.faultsAre("words of 21", Due.fileOfChunk(WORDS, Made.filled(21, 65)), 9, 0, 0, 9, 1, 4, 7, 2, 6);
+        due.faultsAre("raw of 21", Due.fileOfChunk(RAW, Made.filled(21, 255)), 9, 0, 0, 9, 1, 4, 7, 2, 6);
+        due.faultsAre("long ahead of sign", Due.fileOfChunk(WORDS, Made.filled(21, 1)), 9, 0, 0, 9, 1, 4, 7, 2, 6);
         due.faultsAre("31", Due.fileOfChunk(WORDS, 32, 126, 31, 127), 9, 0, 0, 9, 1, 4, 7, 2, 9);
         due.faultsAre("127", Due.fileOfChunk(WORDS, 32, 127), 9, 0, 0, 9, 1, 4, 7, 2, 8);
         due.faultsAre("200", Due.fileOfChunk(WORDS, 200), 9, 0, 0, 9, 1, 4, 7, 2, 7);
     }
 
-    private static int[] repeated(int v, int n) {
-        int[] row = new int[n];
-        java.util.Arrays.fill(row, v);
-        return row;
-    }
-
     private static void groups() {
-        int[] one = Due.inGroup(NUMBER, 5);
+        int[] one = Made.chunk(1, NUMBER, 5);
         due.faultsAre("empty group", Due.fileOfChunk(GROUP));
-        due.faultsAre("six", Due.fileOfChunk(GROUP, Due.together(one, one, one, one, one, one)));
-        due.faultsAre("seventh", Due.fileOfChunk(GROUP, Due.together(one, one, one, one, one, one, one)),
+        due.faultsAre("six", Due.fileOfChunk(GROUP, Made.join(one, one, one, one, one, one)));
+        due.faultsAre("seventh", Due.fileOfChunk(GROUP, Made.join(one, one, one, one, one, one, one)),
             9, 0, 0, 9, 1, 4, 9, 2, 7, 7, 3, 31);
         due.faultsAre("seventh ahead of short",
-            Due.fileOfChunk(GROUP, Due.together(one, one, one, one, one, one, new int[] {0})),
+            Due.fileOfChunk(GROUP, Made.join(one, one, one, one, one, one, new int[] {0})),
             9, 0, 0, 9, 1, 4, 9, 2, 7, 7, 3, 31);
         due.faultsAre("sixth's fault ahead of seventh",
-            Due.fileOfChunk(GROUP, Due.together(one, one, one, one, one, Due.inGroup(1, 5), one)),
+            Due.fileOfChunk(GROUP, Made.join(one, one, one, one, one, Made.chunk(1, 1, 5), one)),
             9, 0, 0, 9, 1, 4, 9, 2, 7, 6, 3, 27);
         due.faultsAre("only a type", Due.fileOfChunk(GROUP, NUMBER), 9, 0, 0, 9, 1, 4, 9, 2, 7, 3, 3, 8);
         due.faultsAre("only type, length", Due.fileOfChunk(GROUP, NUMBER, 0), 9, 0, 0, 9, 1, 4, 9, 2, 7, 3, 3, 9);
         due.faultsAre("no check", Due.fileOfChunk(GROUP, NUMBER, 1, 5), 9, 0, 0, 9, 1, 4, 9, 2, 7, 3, 3, 10);
         due.faultsAre("long", Due.fileOfChunk(GROUP, NUMBER, 255, 5, 5), 9, 0, 0, 9, 1, 4, 9, 2, 7, 3, 3, 11);
         due.faultsAre("check", Due.fileOfChunk(GROUP, NUMBER, 1, 5, 6), 9, 0, 0, 9, 1, 4, 9, 2, 7, 4, 3, 10);
-        due.faultsAre("type", Due.fileOfChunk(GROUP, Due.together(one, Due.inGroup(0, 5))),
+        due.faultsAre("type", Due.fileOfChunk(GROUP, Made.join(one, Made.chunk(1, 0, 5))),
             9, 0, 0, 9, 1, 4, 9, 2, 7, 6, 3, 11);
-        due.faultsAre("length", Due.fileOfChunk(GROUP, Due.together(one, Due.inGroup(NUMBER))),
+        due.faultsAre("length", Due.fileOfChunk(GROUP, Made.join(one, Made.chunk(1, NUMBER))),
             9, 0, 0, 9, 1, 4, 9, 2, 7, 7, 3, 12);
-        due.faultsAre("long words", Due.fileOfChunk(GROUP, Due.inGroup(WORDS, repeated(65, 21))),
+        due.faultsAre("long words", Due.fileOfChunk(GROUP, Made.chunk(1, WORDS, Made.filled(21, 65))),
             9, 0, 0, 9, 1, 4, 9, 2, 7, 7, 3, 8);
-        due.faultsAre("sign", Due.fileOfChunk(GROUP, Due.inGroup(WORDS, 65, 10)),
+        due.faultsAre("sign", Due.fileOfChunk(GROUP, Made.chunk(1, WORDS, 65, 10)),
             9, 0, 0, 9, 1, 4, 9, 2, 7, 7, 3, 10);
         due.faultsAre("the group's own check is looked at first",
             Due.fileOf(67, 70, 1, 1, GROUP, 7, 1, NUMBER, 0), 9, 0, 0, 9, 1, 4, 4, 2, 8);
     }
 
-    private static int[] nested(int groups, int[] innermost) {
-        int[] row = innermost;
-        for (int k = 0; k < groups; k++) {
-            row = Due.inGroup(GROUP, row);
-        }
-        return row;
-    }
-
     private static void deep() {
-        int[] one = Due.inGroup(NUMBER, 5);
-        due.faultsAre("three groups", Due.fileOfChunk(GROUP, nested(2, one)));
-        due.faultsAre("four groups", Due.fileOfChunk(GROUP, nested(3, one)),
+        int[] one = Made.chunk(1, NUMBER, 5);
+        due.faultsAre("three groups", Due.fileOfChunk(GROUP, Made.nested(1, 2, one)));
+        due.faultsAre("four groups", Due.fileOfChunk(GROUP, Made.nested(1, 3, one)),
             9, 0, 0, 9, 1, 4, 9, 2, 7, 9, 3, 9, 9, 4, 11, 8, 5, 11);
-        due.faultsAre("four groups, the last empty", Due.fileOfChunk(GROUP, nested(3, new int[0])),
+        due.faultsAre("four groups, the last empty", Due.fileOfChunk(GROUP, Made.nested(1, 3, new int[0])),
             9, 0, 0, 9, 1, 4, 9, 2, 7, 9, 3, 9, 9, 4, 11, 8, 5, 11);
-        due.faultsAre("five groups", Due.fileOfChunk(GROUP, nested(4, one)),
+        due.faultsAre("five groups", Due.fileOfChunk(GROUP, Made.nested(1, 4, one)),
             9, 0, 0, 9, 1, 4, 9, 2, 7, 9, 3, 9, 9, 4, 11, 8, 5, 11);
-        due.faultsAre("the fourth's check first", Due.fileOfChunk(GROUP, nested(2, new int[] {GROUP, 0, 9})),
+        due.faultsAre("the fourth's check first", Due.fileOfChunk(GROUP, Made.nested(1, 2, new int[] {GROUP, 0, 9})),
             9, 0, 0, 9, 1, 4, 9, 2, 7, 9, 3, 9, 9, 4, 11, 4, 5, 13);
-        due.faultsAre("number in layer 5", Due.fileOfChunk(GROUP, nested(2, Due.inGroup(NUMBER))),
+        due.faultsAre("number in layer 5", Due.fileOfChunk(GROUP, Made.nested(1, 2, Made.chunk(1, NUMBER))),
             9, 0, 0, 9, 1, 4, 9, 2, 7, 9, 3, 9, 9, 4, 11, 7, 5, 12);
-        due.faultsAre("second of the group", Due.fileOfChunk(GROUP, Due.together(one, nested(1, Due.inGroup(1)))),
+        due.faultsAre("second of the group",
+            Due.fileOfChunk(GROUP, Made.join(one, Made.nested(1, 1, Made.chunk(1, 1)))),
             9, 0, 0, 9, 1, 4, 9, 2, 7, 9, 3, 13, 6, 4, 13);
     }
 
@@ -255,12 +242,12 @@ public final class ReadingTest {
         x.set(0, 0);
         due.is("shown(0, 0) of a faulty one", x.shown(0, 0), ChunkLayers.NONE);
         due.shownIs("\" \"~\"", Due.fileOfChunk(WORDS, 32, 34, 126), 0);
-        int[] full = Due.inGroup(RAW, repeated(255, 20));
+        int[] full = Made.chunk(1, RAW, Made.filled(20, 255));
         StringBuilder longest = new StringBuilder("(");
         for (int k = 0; k < 4; k++) {
             longest.append(k == 0 ? "<255" : ";<255").append(",255".repeat(19)).append(">");
         }
-        due.shownIs(longest.append(")").toString(), Due.fileOfChunk(GROUP, Due.together(full, full, full, full)), 0);
+        due.shownIs(longest.append(")").toString(), Due.fileOfChunk(GROUP, Made.join(full, full, full, full)), 0);
     }
 
     private static void taken() {

