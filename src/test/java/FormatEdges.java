@@ -675,6 +675,17 @@ final class FormatEdges {
         run.due(2, "recovered");
         run.due(12, "set", 5, 16);
         run.due(2, "recovered");
+        // it lies over the second: that matters if it ends where THE FILE does, not if it goes on behind that, nor if
+        // it begins in the ENTRIES
+        run.due(16, "set", 5, 14);
+        run.due(1, "set", 6, 2);
+        run.due(1, "recovered");
+        run.due(2, "set", 6, 3);
+        run.due(2, "recovered");
+        run.due(14, "set", 5, 12);
+        run.due(2, "recovered");
+        run.due(3, "set", 6, 1);
+        run.due(12, "set", 5, 16);
         // the first's CHUNK alone has a FAULT: what shares a byte with it does not stand
         run.due(16, "set", 5, 13);
         run.due(RAW, "set", 4, 9);

@@ -509,5 +509,12 @@ final class TapesEdges {
         }
         run.due(1, "tape", 0, 0, 1);
         run.due(-5, "judge", 0, 0);
+        // also where THE FILE is empty: what is refused is not looked at
+        run.due(1, "cut", 0);
+        for (int sort = 1; sort < 5; sort++) {
+            run.refused(Run.CAST, "judge", sort, 0);
+            run.refused(Run.CAST, "judge", sort, -1);
+        }
+        run.due(-5, "judge", 0, 0);
     }
 }

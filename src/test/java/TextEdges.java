@@ -515,8 +515,8 @@ final class TextEdges {
     /** No text of 100 signs comes to more than 120 bytes: the most that one comes to is WRITTEN. */
     private static void longest(Held held) {
         Run run = held.run(WRITE, "FULL: more than 120.");
-        run.text("str " + TWENTY + ";str " + TWENTY + ";str " + TWENTY + ";str " + TWENTY.substring(1));
-        run.due(99, "write", 3);
+        run.text("str " + TWENTY + ";str " + TWENTY + ";str " + TWENTY + ";str " + TWENTY);
+        run.due(100, "write", 3);
         run.whole(4);
         run = held.run(WRITE, "FULL: more than 120.");
         run.text("str " + TWENTY + ";str " + TWENTY + ";str " + TWENTY + ";str abcdefghijklmnop;str ");

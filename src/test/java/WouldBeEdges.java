@@ -226,6 +226,18 @@ final class WouldBeEdges {
         run.due(67, "set", 0, 0);
         run.refused(Run.NO, "mean", 0);
         run.refused(Run.NO, "mean", 1);
+        // NUMBERS that stand ahead of the FAULT do not count either
+        for (int[] wrong : new int[][] {Made.row(NUMBER, 1, 5, 6), Made.chunk(2, 9), Made.chunk(2, GROUP, Made.join(
+            Made.chunk(2, NUMBER, 5), Made.chunk(2, WORDS, 31)))}) {
+            run = held.run(TERMS, sentence);
+            run.file(Made.fileOf(2, Made.chunk(2, NUMBER, 5), Made.chunk(2, GROUP, Made.chunk(2, NUMBER, 7)), wrong));
+            run.refused(Run.NO, "mean", 0);
+            run.refused(Run.NO, "mean", 1);
+            asIs(run, -5, -5);
+            run.due(-5, "fits", 2);
+            run.due(3, "set", 3, 2);
+            fraction(run, "mean", 6, 1);
+        }
         run = held.run("Promise 20", "MEAN; part likewise.");
         run.text("num 7;num -14;num 1");
         run.due(4 + 9 + 6, "write", 1);
