@@ -263,7 +263,8 @@ final class WouldBeEdges {
         Run run = held.run(TERMS, sentence);
         // as many NUMBERS as there can be
         int[] four = Made.chunk(1, GROUP, Made.times(4, Made.chunk(1, NUMBER, 1)));
-        int[] three = Made.chunk(1, GROUP, Made.join(Made.times(2, Made.chunk(1, NUMBER, 1)), Made.chunk(1, NUMBER, 2)));
+        int[] three = Made.chunk(1, GROUP,
+            Made.join(Made.times(2, Made.chunk(1, NUMBER, 1)), Made.chunk(1, NUMBER, 2)));
         run.file(Made.fileOf(1, four, four, four, four, four, three));
         run.due(120, "count", 0);
         run.whole(6);

@@ -87,7 +87,8 @@ public final class WouldBeTest {
         due.is("as(0, 0) of a faulty one", x.as(0, 0), ChunkLayers.NONE);
         due.is("as(1, 2) of a faulty one", x.as(1, 2), ChunkLayers.NONE);
         due.is("as(1, 0) of no entries", Due.fileOf(67, 70, 1, 0, 9, 9).as(1, 0), 4);
-        int[] group = Made.join(Made.chunk(1, 110, 0, 0, 0, 200), Made.chunk(1, 103, Made.chunk(1, 110, 255, 255, 254)));
+        int[] group = Made.join(Made.chunk(1, 110, 0, 0, 0, 200),
+            Made.chunk(1, 103, Made.chunk(1, 110, 255, 255, 254)));
         due.is("as(2, 0) of numbers in groups", Due.fileOfChunk(103, group).as(2, 0), 8 + 5 + 3 + 4);
     }
 
