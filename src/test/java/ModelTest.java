@@ -10,6 +10,8 @@ import java.util.TreeMap;
 /** Many runs of calls, by fixed seeds, on ChunkLayers and on the Model: each answer is due twice. */
 public final class ModelTest {
     private static final int RUNS = 3000;
+    /** What an object answers to later calls is free. */
+    private static final int MOST_CALLS = 512;
     private static final int SHOWN_AT_MOST = 20;
     private static final int[] WILD = {Integer.MIN_VALUE, Integer.MIN_VALUE + 1, Integer.MAX_VALUE,
         Integer.MAX_VALUE - 1, -1000, 1000, 256, 120, 1 << 24, 1 << 31 - 7};
@@ -22,6 +24,7 @@ public final class ModelTest {
     private final ChunkLayers x = new ChunkLayers();
     private final Model model = new Model();
     private final StringBuilder story = new StringBuilder();
+    private int asks = 0;
 
     private ModelTest(long seed) {
         random = new Random(seed);
@@ -55,21 +58,19 @@ public final class ModelTest {
     }
 
     private void run() throws Exception {
-        int many = 0;
-        while (many < 400) {
+        while (asks < MOST_CALLS) {
             int start = random.nextInt(10);
             if (start < 3) {
-                many += tellFile(damaged(fileBytes()));
+                tellFile(damaged(fileBytes()));
             } else if (start < 6) {
-                many += tellText();
+                tellText();
             }
             for (int k = random.nextInt(40); k > 0; k--) {
                 Method call = calls.get(random.nextInt(calls.size()));
                 ask(call, arguments(call));
-                many++;
             }
             if (random.nextInt(4) == 0) {
-                many += lookAtAll();
+                lookAtAll();
             }
         }
     }
@@ -83,6 +84,10 @@ public final class ModelTest {
     }
 
     private void ask(Method call, long[] arguments) throws Exception {
+        if (asks >= MOST_CALLS) {
+            return;
+        }
+        asks++;
         Object[] told = new Object[arguments.length];
         for (int k = 0; k < told.length; k++) {
             boolean isLong = call.getParameterTypes()[k] == long.class;
@@ -107,7 +112,7 @@ public final class ModelTest {
         }
     }
 
-    private int lookAtAll() throws Exception {
+    private void lookAtAll() throws Exception {
         ask("read");
         ask("recovered");
         ask("looked");
@@ -131,7 +136,6 @@ public final class ModelTest {
         }
         ask("mean", 0);
         ask("mean", 1);
-        return 80;
     }
 
     // ---- arguments: mostly such as mean something, at times wild ones
@@ -151,14 +155,14 @@ public final class ModelTest {
             case "cut":
                 arguments[0] = random.nextInt(120);
                 break;
-            case "shown":
-                arguments[1] = random.nextInt(60) - 2;
-                break;
             case "see", "book":
                 seeOrBook(arguments);
                 break;
-            case "item":
-                arguments[2] = random.nextInt(3) == 0 ? random.nextLong() : byteOfFile(random.nextInt(20));
+            case "tape", "item", "peek", "shift", "judge":
+                tapeCall(call.getName(), arguments);
+                break;
+            case "thing", "shown", "taken", "plan", "check", "as", "fits", "ends", "odds", "mean":
+                small(call.getName(), arguments);
                 break;
             default:
                 break;
@@ -166,21 +170,60 @@ public final class ModelTest {
         return arguments;
     }
 
+    /** Mostly a TAPE that there is; two of them more often, so that they hold rows of one sort at times. */
+    private void tapeCall(String name, long[] arguments) {
+        if (random.nextInt(4) == 0) {
+            return;
+        }
+        arguments[0] = random.nextInt(random.nextBoolean() ? 2 : 6);
+        if (name.equals("tape")) {
+            arguments[1] = random.nextInt(3) > 0 ? random.nextInt(2) : random.nextInt(6) - 1;
+            arguments[2] = random.nextInt(3) > 0 ? random.nextInt(12) : random.nextInt(64) - 2;
+            return;
+        }
+        arguments[1] = random.nextInt(8) - 1;
+        if (name.equals("item")) {
+            arguments[2] = random.nextInt(3) == 0 ? random.nextLong() : byteOfFile(random.nextInt(20));
+        } else if (name.equals("shift")) {
+            arguments[2] = random.nextInt(random.nextBoolean() ? 2 : 6);
+            arguments[3] = random.nextInt(8) - 1;
+            arguments[4] = random.nextInt(8) - 1;
+        }
+    }
+
+    /** Mostly numbers that these calls have, and at times those beside them. */
+    private void small(String name, long[] arguments) {
+        if (random.nextInt(4) == 0) {
+            return;
+        }
+        for (int k = 0; k < arguments.length; k++) {
+            arguments[k] = random.nextInt(5) - (name.equals("plan") && random.nextInt(4) > 0 ? 0 : 1);
+        }
+        if (name.equals("shown")) {
+            arguments[1] = random.nextInt(60) - 2;
+        } else if (name.equals("plan")) {
+            arguments[1] = random.nextInt(random.nextBoolean() ? 40 : 122) - 1;
+        } else if (name.equals("check")) {
+            arguments[1] = random.nextInt(30) - 1;
+            arguments[2] = random.nextInt(30) - 1;
+        }
+    }
+
     private void seeOrBook(long[] arguments) {
         int place = random.nextInt(30);
-        if (random.nextInt(3) > 0 && x.at(place) >= 0) {
+        if (random.nextInt(3) > 0 && model.at(place) >= 0) {
             arguments[0] = place;
-            arguments[1] = x.at(place);
+            arguments[1] = model.at(place);
         }
     }
 
     private int byteOfFile(int place) {
-        return Math.max(x.at(place), 0);
+        return Math.max(model.at(place), 0);
     }
 
     // ---- files
 
-    private int tellFile(List<Integer> bytes) throws Exception {
+    private void tellFile(List<Integer> bytes) throws Exception {
         ask("cut", 0);
         for (int b : bytes) {
             ask("put", b);
@@ -192,7 +235,6 @@ public final class ModelTest {
             }
             ask("judge", 0, 0);
         }
-        return bytes.size() + 1;
     }
 
     private List<Integer> damaged(List<Integer> bytes) {
@@ -277,7 +319,7 @@ public final class ModelTest {
 
     // ---- texts
 
-    private int tellText() throws Exception {
+    private void tellText() throws Exception {
         if (random.nextInt(5) > 0) {
             ask("write", 1);
         }
@@ -301,7 +343,6 @@ public final class ModelTest {
             ask("feed", text.charAt(k));
         }
         ask("write", 1 + random.nextInt(3));
-        return text.length() + 2;
     }
 
     private String toldThings(int sets, int least) {
